@@ -429,6 +429,8 @@ public final class ReferenceTest {
         final int span;
         final int clearsOneIn;
         final int names;
+        final int refines;
+        final boolean closesIfs;
         final int[] kinds = new int[12];
 
         Leaning(Draw draw) {
@@ -436,6 +438,8 @@ public final class ReferenceTest {
             span = draw.oneIn(8) ? 1000 : draw.within(1, 12);
             clearsOneIn = draw.within(8, 60);
             names = draw.within(1, 8);
+            refines = draw.oneIn(2) ? 3 : 12;
+            closesIfs = draw.oneIn(2);
             for (int i = 0; i < kinds.length; i++) {
                 kinds[i] = i < 6 ? new int[] {GIVE, CALL, IF, CLAIM, ELSE, END}[i] : draw.below(9) % 8;
             }
@@ -445,6 +449,24 @@ public final class ReferenceTest {
     private static int name(Draw draw, Leaning leaning) {
         int n = draw.below(3 + leaning.names);
         return n < 3 ? n : n + 1;
+    }
+
+    /** Mostly a name that may be used already. */
+    private static int usedName(Draw draw, Leaning leaning, ModelFunction f) {
+        int n = name(draw, leaning);
+        for (int i = 0; i < 4 && n > 3 && !f.gives(n); i++) {
+            n = name(draw, leaning);
+        }
+        return n;
+    }
+
+    private static int kind(Draw draw, Leaning leaning, ModelFunction f) {
+        int kind = leaning.kinds[draw.below(leaning.kinds.length)];
+        boolean noneOpen = f.openAt(f.statements.size()).isEmpty();
+        if ((kind == ELSE || kind == END) && noneOpen && !draw.oneIn(6)) {
+            return IF;
+        }
+        return leaning.closesIfs && !noneOpen && draw.oneIn(2) ? END : kind;
     }
 
     private static int k(Draw draw, Leaning leaning) {
@@ -457,15 +479,18 @@ public final class ReferenceTest {
         int size = model.functions[f].statements.size();
         int[] call;
         int what = draw.below(100);
-        if (what < 12) {
+        if (what < leaning.refines) {
             int kind = draw.below(2);
             call = new int[] {0, f, kind, draw.below(3 + kind), draw.below(3 + kind), k(draw, leaning)};
         } else if (what < 55) {
-            int kind = leaning.kinds[draw.below(leaning.kinds.length)];
+            ModelFunction drawn = model.functions[f];
+            int kind = kind(draw, leaning, drawn);
             boolean gives = kind == GIVE || kind == CALL || kind == ANY;
-            int a = gives ? draw.within(4, 3 + leaning.names) : name(draw, leaning);
+            int a = gives ? draw.within(4, 3 + leaning.names) : usedName(draw, leaning, drawn);
             int k = kind == CALL ? draw.below(leaning.functions) : k(draw, leaning);
-            call = new int[] {1, f, kind, a, name(draw, leaning), name(draw, leaning), k};
+            call = new int[] {
+                1, f, kind, a, usedName(draw, leaning, drawn), usedName(draw, leaning, drawn), k
+            };
         } else if (what < 56) {
             call = draw.oneIn(2) ? new int[] {8, f, draw.below(4)} : new int[] {2, f};
         } else if (what < 66) {
