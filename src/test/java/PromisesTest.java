@@ -1,48 +1,5 @@
-import java.util.NoSuchElementException;
-
-/** Each promise of the document: ordinary inputs, the edges that it names, and wrong inputs. */
-public final class PromisesTest {
-    private static final int GIVE = 0;
-    private static final int CALL = 1;
-    private static final int IF = 2;
-    private static final int ELSE = 3;
-    private static final int END = 4;
-    private static final int CLAIM = 5;
-    private static final int RETURN = 6;
-    private static final int ANY = 7;
-
-    private static final Class<?> ARGUMENT = IllegalArgumentException.class;
-    private static final Class<?> STATE = IllegalStateException.class;
-    private static final Class<?> UNSUPPORTED = UnsupportedOperationException.class;
-    private static final Class<?> NO_ELEMENT = NoSuchElementException.class;
-    private static final Class<?> ARITHMETIC = ArithmeticException.class;
-
-    private static final int[] EXTREMES = {Integer.MIN_VALUE, Integer.MAX_VALUE};
-
-    private static int wrong = 0;
-    private static int tried = 0;
-
-    private interface Call {
-        int answer();
-    }
-
-    /** want is the answer, or the class of what is thrown. */
-    private static void due(Object want, Call call) {
-        Object got;
-        try {
-            got = call.answer();
-        } catch (RuntimeException e) {
-            got = e.getClass();
-        }
-        tried++;
-        if (!got.equals(want)) {
-            wrong++;
-            StackTraceElement[] trace = new Throwable().getStackTrace();
-            System.out.println(trace[1].getMethodName() + ", line " + trace[1].getLineNumber()
-                    + ": answered " + got + ", due is " + want);
-        }
-    }
-
+/** Each promise of the document in ordinary use, with edges and wrong inputs. */
+public final class PromisesTest extends Sentences {
     /** A statement that uses a, b and k, at the place that is due. */
     private static void put(LiquidChecker x, int place, int function, int kind, int... abk) {
         due(place, () -> x.statement(function, kind, abk.length > 0 ? abk[0] : 0, abk.length > 1 ? abk[1] : 0, 0,
@@ -559,7 +516,7 @@ public final class PromisesTest {
     /** Arguments at the ends of int never bring anything but the exception that is due. */
     private static void extremes() {
         LiquidChecker x = new LiquidChecker();
-        for (int e : EXTREMES) {
+        for (int e : new int[] {Integer.MIN_VALUE, Integer.MAX_VALUE}) {
             due(ARGUMENT, () -> x.refine(e, e, e, e, e));
             due(ARGUMENT, () -> x.statement(e, e, e, e, e, e));
             due(ARGUMENT, () -> x.most(e, e, e, e));
@@ -570,25 +527,22 @@ public final class PromisesTest {
     }
 
     public static void main(String[] args) {
-        newObject();
-        refine();
-        statementArguments();
-        statementOrderOfTesting();
-        statementIfs();
-        clear();
-        checkReturnsAndClaims();
-        checkCalls();
-        ways();
-        sixtyFourWays();
-        comes();
-        mostArguments();
-        mostAnswers();
-        follows();
-        count();
-        extremes();
-        System.out.println(wrong == 0 ? "all " + tried + " answers are as due" : wrong + " answers are not as due");
-        if (wrong != 0) {
-            System.exit(1);
-        }
+        sentence("Promise 1: a new object", unused -> newObject());
+        sentence("Promise 2: refine", unused -> refine());
+        sentence("Promise 3: statement, its arguments", unused -> statementArguments());
+        sentence("Promise 3: statement, the order of testing", unused -> statementOrderOfTesting());
+        sentence("Promise 3: statement, IFs", unused -> statementIfs());
+        sentence("Promise 4: clear", unused -> clear());
+        sentence("Promise 5: check, RETURNs and CLAIMs", unused -> checkReturnsAndClaims());
+        sentence("Promise 5: check, CALLs", unused -> checkCalls());
+        sentence("Promise 6: ways", unused -> ways());
+        sentence("Promise 6: ways, all 64", unused -> sixtyFourWays());
+        sentence("Promise 7: comes", unused -> comes());
+        sentence("Promise 8: most, its arguments", unused -> mostArguments());
+        sentence("Promise 8: most, its answers", unused -> mostAnswers());
+        sentence("Promise 9: follows", unused -> follows());
+        sentence("Promise 10: count", unused -> count());
+        sentence("All promises: arguments at the ends of int", unused -> extremes());
+        endOfTests();
     }
 }
