@@ -9,8 +9,15 @@ import java.util.TreeSet;
 /** The class shows the document's face to the outside, and nothing else. */
 public final class FaceTest {
     private static final String[] FACE = {
-        "check(int)", "clear(int)", "comes(int,int)", "count(int,int)", "follows(int,int)",
-        "most(int,int,int,int)", "refine(int,int,int,int,int)", "statement(int,int,int,int,int,int)", "ways(int)"
+        "check(int) IllegalArgumentException",
+        "clear(int) IllegalArgumentException",
+        "comes(int,int) IllegalArgumentException",
+        "count(int,int) IllegalArgumentException",
+        "follows(int,int) IllegalArgumentException",
+        "most(int,int,int,int) IllegalArgumentException NoSuchElementException ArithmeticException",
+        "refine(int,int,int,int,int) IllegalArgumentException IllegalStateException",
+        "statement(int,int,int,int,int,int) IllegalArgumentException UnsupportedOperationException IllegalStateException",
+        "ways(int) IllegalArgumentException"
     };
     private static int wrong = 0;
 
@@ -37,7 +44,11 @@ public final class FaceTest {
                 for (Class<?> type : method.getParameterTypes()) {
                     types.append(types.length() == 0 ? "" : ",").append(type.getName());
                 }
-                seen.add(method.getName() + "(" + types + ")");
+                StringBuilder thrown = new StringBuilder();
+                for (Class<?> type : method.getExceptionTypes()) {
+                    thrown.append(' ').append(type.getSimpleName());
+                }
+                seen.add(method.getName() + "(" + types + ")" + thrown);
                 publicNames.add(method.getName());
                 hold(Modifier.isPublic(method.getModifiers()), method.getName() + " is public");
                 hold(!Modifier.isStatic(method.getModifiers()), method.getName() + " belongs to an object");

@@ -229,9 +229,11 @@ public final class RefusalsTest extends Sentences {
     private static void statementRefusesMore() {
         sentence("statement: IllegalStateException: it has 16", unused -> {
             for (int f : within(0, 3)) {
-                for (int kind : new int[] {GIVE, CALL, CLAIM, RETURN, ANY}) {
-                    refused(STATE, FULL, x -> x.statement(f, kind, 4, 1, 1, 0));
+                for (int kind : new int[] {GIVE, CALL, ANY}) {
+                    refused(STATE, FULL, x -> x.statement(f, kind, 11, 1, 1, 0));
                 }
+                refused(STATE, FULL, x -> x.statement(f, CLAIM, 4, 1, 0, -1000));
+                refused(STATE, FULL, x -> x.statement(f, RETURN, 0, 4, 0, 1000));
             }
             for (int f : within(0, 2)) {
                 refused(STATE, FULL, x -> x.statement(f, IF, 4, 1, 1, 0));
