@@ -374,7 +374,8 @@ public final class LiquidChecker {
      * that is given anew takes nothing away that the others still need.
      */
     private static final class Known {
-        private static final int UNBOUNDED = Integer.MAX_VALUE;
+        /** Above every sum of bounds that a function's few relations and statements can make. */
+        private static final int UNBOUNDED = 1000000;
 
         /** At a * NAMES + b: the most that a - b can be. */
         private final int[] bounds = new int[NAMES * NAMES];
@@ -479,7 +480,7 @@ public final class LiquidChecker {
             askedPlace = place;
             askedA = a;
             askedB = b;
-            greatest = Integer.MIN_VALUE;
+            greatest = -Known.UNBOUNDED;
             placesCome = 0;
             leastUnshown = NOWHERE;
             ended = 0;
